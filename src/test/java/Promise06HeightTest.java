@@ -1,0 +1,78 @@
+/** Promise 6: a bin's height; and what the Terms say of full bins. */
+public final class Promise06HeightTest {
+    public static void main(String[] args) {
+        answersThatBefore();
+        refusals();
+        fullBinIsPassed();
+        lowerThanItHolds();
+        fullBinBehindAnOpenGate();
+        Due.end();
+    }
+
+    private static void answersThatBefore() {
+        GateTimes x = new GateTimes(3);
+        Due.due("height(0, 1)", x.height(0, 1), 1000);
+        Due.due("height(0, 1000)", x.height(0, 1000), 1);
+        Due.due("height(0, 7)", x.height(0, 7), 1000);
+        Due.due("height(2, 8)", x.height(2, 8), 1000);
+        Due.due("height(0, 7)", x.height(0, 7), 7);
+        Due.due("height(2, 9)", x.height(2, 9), 8);
+        Due.due("height(1, 9)", x.height(1, 9), 1000);
+    }
+
+    private static void refusals() {
+        GateTimes x = new GateTimes(3);
+        int[] bins = {-1, 3, 4, Integer.MIN_VALUE, Integer.MAX_VALUE};
+        for (int bin : bins) {
+            Due.due("height(" + bin + ", 5)", x.height(bin, 5), GateTimes.UNKNOWN);
+            Due.due("height(" + bin + ", 0)", x.height(bin, 0), GateTimes.UNKNOWN);
+        }
+        int[] heights = {0, -1, 1001, Integer.MIN_VALUE, Integer.MAX_VALUE};
+        for (int n : heights) {
+            Due.due("height(2, " + n + ")", x.height(2, n), GateTimes.OUTSIDE);
+        }
+        Due.due("height(2, 5) after refusals", x.height(2, 5), 1000);
+    }
+
+    private static void fullBinIsPassed() {
+        GateTimes x = new GateTimes(2);
+        x.height(0, 2);
+        for (int k = 1; k <= 4; k++) {
+            x.item(500L * k, 100);
+            x.order(k, 0, 0);
+        }
+        x.step(2500);
+        Due.due("count(0) when it is full", x.count(0), 2);
+        Due.due("height(0, 3)", x.height(0, 3), 2);
+        x.step(100_000);
+        Due.due("count(0)", x.count(0), 3);
+        Due.due("count(2)", x.count(2), 1);
+        Due.due("swap(0)", x.swap(0), 3);
+    }
+
+    private static void lowerThanItHolds() {
+        GateTimes x = new GateTimes(2);
+        for (int k = 1; k <= 4; k++) {
+            x.item(500L * k, 100);
+            x.order(k, 0, 0);
+        }
+        x.step(2500);
+        Due.due("height(0, 1) when it holds 3", x.height(0, 1), 1000);
+        x.step(100_000);
+        Due.due("count(0)", x.count(0), 3);
+        Due.due("out(3, 1)", x.out(3, 1), 2);
+    }
+
+    private static void fullBinBehindAnOpenGate() {
+        GateTimes x = new GateTimes(2);
+        x.height(0, 1);
+        x.item(0, 100);
+        x.item(299, 100);
+        x.item(598, 100);
+        x.order(1, 0, 0);
+        x.order(2, 0, 0);
+        x.step(100_000);
+        Due.due("count(0): the gate could not close", x.count(0), 3);
+        Due.due("swap(0): it holds more than its height", x.swap(0), 3);
+    }
+}

@@ -1,0 +1,74 @@
+/** Promise 8: a gate sticks as it stands from now on, or does no more. */
+public final class Promise08StuckTest {
+    public static void main(String[] args) {
+        answers();
+        sticksClosed();
+        sticksOpen();
+        fromNowOn();
+        Due.end();
+    }
+
+    private static void answers() {
+        GateTimes x = new GateTimes(2);
+        Due.due("stuck(0, false) at first", x.stuck(0, false), 0);
+        Due.due("stuck(0, true)", x.stuck(0, true), 1);
+        Due.due("stuck(0, true) again", x.stuck(0, true), 0);
+        Due.due("stuck(1, true), another", x.stuck(1, true), 1);
+        Due.due("stuck(0, false)", x.stuck(0, false), 1);
+        Due.due("stuck(0, false) again", x.stuck(0, false), 0);
+        int[] gates = {-1, 2, 3, Integer.MIN_VALUE, Integer.MAX_VALUE};
+        for (int gate : gates) {
+            Due.due("stuck(" + gate + ", true)", x.stuck(gate, true), GateTimes.UNKNOWN);
+            Due.due("stuck(" + gate + ", false)", x.stuck(gate, false), GateTimes.UNKNOWN);
+        }
+    }
+
+    private static void sticksClosed() {
+        GateTimes x = new GateTimes(2);
+        x.item(0, 100);
+        x.item(1000, 100);
+        x.order(1, 0, 0);
+        x.order(2, 0, 0);
+        x.stuck(0, true);
+        x.step(1999);
+        x.stuck(0, false);
+        x.step(100_000);
+        Due.due("item 1 went past", x.out(1, 1), 2);
+        Due.due("item 2 did not", x.out(0, 1), 0);
+        Due.due("out(0, 0)", x.out(0, 0), 2);
+        Due.due("verify(0, 0)", x.verify(0, 0), 1);
+    }
+
+    private static void sticksOpen() {
+        GateTimes x = new GateTimes(2);
+        x.item(0, 100);
+        x.item(1000, 100);
+        x.item(2000, 100);
+        x.order(1, 0, 0);
+        x.order(2, 1, 0);
+        x.height(0, 1);
+        x.step(1000);
+        x.stuck(0, true);
+        x.step(2000);
+        Due.due("item 2 came into bin 0, though it is full", x.out(1, 1), 0);
+        x.stuck(0, false);
+        x.step(100_000);
+        Due.due("item 3 closed the gate", x.out(2, 1), 2);
+    }
+
+    private static void fromNowOn() {
+        GateTimes x = new GateTimes(1);
+        x.item(0, 100);
+        x.item(1000, 100);
+        x.order(1, 0, 0);
+        x.step(1000);
+        x.stuck(0, true);
+        Due.due("item 1 was in time", x.out(0, 1), 0);
+        x.step(1999);
+        x.stuck(0, false);
+        x.step(2000);
+        Due.due("a gate that is free again stands open until it turns", x.out(1, 1), -1);
+        x.step(3000);
+        Due.due("item 2 turned it", x.out(1, 1), 1);
+    }
+}
