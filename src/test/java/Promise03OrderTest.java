@@ -49,8 +49,9 @@ public final class Promise03OrderTest {
         Due.due("the same", x.order(1, 2, 0), 2);
         Due.due("another, too late", x.order(1, 0, 1500), 2);
         Due.due("late(1)", x.late(1), 0);
-        Due.due("the same, too late", x.order(1, 2, 2999), 2);
+        Due.due("the same, too late", x.order(1, 2, 2850), 2);
         Due.due("late(1)", x.late(1), 0);
+        Due.due("another, in time", x.order(1, 3, 2850), 2);
         x.step(100_000);
         Due.due("out(0, 1)", x.out(0, 1), 2);
     }
@@ -110,7 +111,7 @@ public final class Promise03OrderTest {
         Due.due("order(2, 0, 2000)", x.order(2, 0, 2000), 1);
         Due.due("out(0, 0)", x.out(0, 0), 1);
         Due.due("step(1999)", x.step(1999), GateTimes.OUTSIDE);
-        Due.due("order too late, time passes though", x.order(2, 0, 2100), 2);
+        Due.due("it has an order, time passes though", x.order(2, 0, 2100), 2);
         Due.due("step(2099)", x.step(2099), GateTimes.OUTSIDE);
         Due.due("step(2100)", x.step(2100), 1);
     }

@@ -100,7 +100,7 @@ public final class Promise04StepTest {
         }
         Due.due("step over 400 items past 12 gates", x.step(1_000_000), 400);
         Due.due("count(12)", x.count(12), 400);
-        for (int k = 0; k < 100; k++) {
+        for (int k = 0; k < 50; k++) {
             Due.due("out(" + k + ", 0)", x.out(k, 0), k + 1);
             Due.due("out(" + k + ", 2)", x.out(k, 2), 13_000 + 100L * k);
         }

@@ -67,8 +67,8 @@ public final class Promise08StuckTest {
         x.step(1999);
         x.stuck(0, false);
         x.step(2000);
-        Due.due("a gate that is free again stands open until it turns", x.out(1, 1), -1);
+        Due.due("item 2 found the gate able to close and went on", x.out(1, 1), -1);
         x.step(3000);
-        Due.due("item 2 turned it", x.out(1, 1), 1);
+        Due.due("item 2 is rejected", x.out(1, 1), 1);
     }
 }
