@@ -17,6 +17,7 @@ public final class Promise01NewObjectTest {
     }
 
     private static void gatesAre(int asked, int due) {
+        Due.sentence("So many gates, brought to 1 .. 12");
         GateTimes x = new GateTimes(asked);
         for (int bin = 0; bin < due; bin++) {
             Due.due("gates " + asked + ": height(" + bin + ", 1000)", x.height(bin, 1000), 1000);
@@ -35,6 +36,7 @@ public final class Promise01NewObjectTest {
     }
 
     private static void startsEmpty() {
+        Due.sentence("no items");
         GateTimes x = new GateTimes(3);
         Due.due("new: late(0)", x.late(0), GateTimes.UNKNOWN);
         Due.due("new: late(1)", x.late(1), GateTimes.UNKNOWN);
@@ -46,6 +48,7 @@ public final class Promise01NewObjectTest {
     }
 
     private static void objectsAreApart() {
+        Due.sentence("no items");
         GateTimes x = new GateTimes(2);
         GateTimes y = new GateTimes(2);
         x.item(0, 10);

@@ -3,7 +3,9 @@ public final class Promise02ItemTest {
     public static void main(String[] args) {
         lengths();
         times();
+        lastTime();
         gaps();
+        gapBehindAnItemThatIsPast();
         room();
         refusedChangesNothing();
         comesInItsTime();
@@ -11,6 +13,7 @@ public final class Promise02ItemTest {
     }
 
     private static void lengths() {
+        Due.sentence("OUTSIDE (length 1 .. 900; ..)");
         GateTimes x = new GateTimes(2);
         Due.due("item(0, 0)", x.item(0, 0), GateTimes.OUTSIDE);
         Due.due("item(0, -1)", x.item(0, -1), GateTimes.OUTSIDE);
@@ -23,6 +26,7 @@ public final class Promise02ItemTest {
     }
 
     private static void times() {
+        Due.sentence("OUTSIDE (.. the time is below now, above 10^9, ..)");
         GateTimes x = new GateTimes(2);
         Due.due("item(-1, 5)", x.item(-1, 5), GateTimes.OUTSIDE);
         Due.due("item(least, 5)", x.item(Long.MIN_VALUE, 5), GateTimes.OUTSIDE);
@@ -36,7 +40,19 @@ public final class Promise02ItemTest {
         Due.due("item(10^9, 5) again", x.item(1_000_000_000L, 5), GateTimes.OUTSIDE);
     }
 
+    private static void lastTime() {
+        Due.sentence("OUTSIDE (.. above 10^9, ..)");
+        GateTimes x = new GateTimes(12);
+        Due.due("item(10^9, 900)", x.item(1_000_000_000L, 900), 1);
+        Due.due("order(1, 0, 10^9), 1000 before", x.order(1, 0, 1_000_000_000L), 1);
+        Due.due("step(10^9)", x.step(1_000_000_000L), 0);
+        Due.due("item(10^9, 1), no gap", x.item(1_000_000_000L, 1), GateTimes.OUTSIDE);
+        Due.due("item(10^9 + 950, 1)", x.item(1_000_000_950L, 1), GateTimes.OUTSIDE);
+        Due.due("out(0, 0)", x.out(0, 0), -1);
+    }
+
     private static void gaps() {
+        Due.sentence("OUTSIDE (.. or not 50 at least behind the end of the item before at the same place)");
         GateTimes x = new GateTimes(2);
         Due.due("item(1000, 300)", x.item(1000, 300), 1);
         Due.due("item(999, 5), before it", x.item(999, 5), GateTimes.OUTSIDE);
@@ -50,7 +66,19 @@ public final class Promise02ItemTest {
         Due.due("item(10^6, 5)", x.item(1_000_000, 5), 4);
     }
 
+    private static void gapBehindAnItemThatIsPast() {
+        Due.sentence("OUTSIDE (.. or not 50 at least behind the end of the item before at the same place)");
+        GateTimes x = new GateTimes(1);
+        x.item(0, 900);
+        x.step(940);
+        Due.due("item(940, 5), now, 40 behind", x.item(940, 5), GateTimes.OUTSIDE);
+        Due.due("item(949, 5), 49 behind", x.item(949, 5), GateTimes.OUTSIDE);
+        x.step(950);
+        Due.due("item(950, 5), now, 50 behind", x.item(950, 5), 2);
+    }
+
     private static void room() {
+        Due.sentence("ROOM");
         GateTimes x = new GateTimes(1);
         for (int k = 1; k <= 400; k++) {
             Due.due("item " + k, x.item(51L * (k - 1), 1), k);
@@ -66,6 +94,7 @@ public final class Promise02ItemTest {
     }
 
     private static void refusedChangesNothing() {
+        Due.sentence("A call that is refused changes nothing");
         GateTimes x = new GateTimes(1);
         x.item(5000, 901);
         x.item(1_000_000_001L, 1);
@@ -75,6 +104,7 @@ public final class Promise02ItemTest {
     }
 
     private static void comesInItsTime() {
+        Due.sentence("An item comes at a time (now or later): its number");
         GateTimes x = new GateTimes(1);
         Due.due("item(3000, 1)", x.item(3000, 1), 1);
         Due.due("step(0): an item lets no time pass", x.step(0), 0);

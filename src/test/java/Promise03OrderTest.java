@@ -4,6 +4,7 @@ public final class Promise03OrderTest {
         inTime();
         tooLate();
         hasAnOrder();
+        orderThatWentWrongStays();
         isInABin();
         unknown();
         outside();
@@ -13,6 +14,7 @@ public final class Promise03OrderTest {
     }
 
     private static void inTime() {
+        Due.sentence("then an item is ordered into a bin: 1");
         for (int bin = 0; bin < 4; bin++) {
             GateTimes x = new GateTimes(4);
             x.item(10, 100);
@@ -30,6 +32,7 @@ public final class Promise03OrderTest {
     }
 
     private static void tooLate() {
+        Due.sentence("0 when it is .. (without an order) too late for that");
         GateTimes x = new GateTimes(4);
         x.item(10, 100);
         Due.due("order 199 before", x.order(1, 0, 811), 0);
@@ -42,6 +45,7 @@ public final class Promise03OrderTest {
     }
 
     private static void hasAnOrder() {
+        Due.sentence("2 when it has an order (that stays; nothing is too late then)");
         GateTimes x = new GateTimes(4);
         x.item(0, 100);
         Due.due("the order", x.order(1, 2, 0), 1);
@@ -56,7 +60,22 @@ public final class Promise03OrderTest {
         Due.due("out(0, 1)", x.out(0, 1), 2);
     }
 
+    private static void orderThatWentWrongStays() {
+        Due.sentence("2 when it has an order (that stays; ..)");
+        GateTimes x = new GateTimes(3);
+        x.item(0, 100);
+        Due.due("the order", x.order(1, 0, 0), 1);
+        x.stuck(0, true);
+        x.step(1000);
+        Due.due("another, when it is past its bin", x.order(1, 2, 1001), 2);
+        x.step(100_000);
+        Due.due("out(0, 1)", x.out(0, 1), 3);
+        Due.due("verify(0, 1)", x.verify(0, 1), 0);
+        Due.due("late(1)", x.late(1), 0);
+    }
+
     private static void isInABin() {
+        Due.sentence("0 when it is in a bin");
         GateTimes x = new GateTimes(2);
         x.item(0, 100);
         x.item(500, 100);
@@ -66,9 +85,12 @@ public final class Promise03OrderTest {
         Due.due("late(1)", x.late(1), 0);
         Due.due("late(2)", x.late(2), 0);
         Due.due("verify(0, 0)", x.verify(0, 0), -1);
+        Due.due("in a bin, and no such bin", x.order(1, 2, 3500), GateTimes.UNKNOWN);
+        Due.due("in a bin, and below now", x.order(1, 1, 3499), GateTimes.OUTSIDE);
     }
 
     private static void unknown() {
+        Due.sentence("UNKNOWN (an item, a bin)");
         GateTimes x = new GateTimes(2);
         x.item(0, 100);
         int[] items = {0, 2, -1, 401, Integer.MIN_VALUE, Integer.MAX_VALUE};
@@ -84,6 +106,7 @@ public final class Promise03OrderTest {
     }
 
     private static void outside() {
+        Due.sentence("Time passes to t (10^9 at most); .. OUTSIDE");
         GateTimes x = new GateTimes(2);
         x.item(0, 100);
         x.step(10);
@@ -98,6 +121,7 @@ public final class Promise03OrderTest {
     }
 
     private static void unknownBeforeOutside() {
+        Due.sentence("UNKNOWN (an item, a bin), OUTSIDE");
         GateTimes x = new GateTimes(2);
         x.item(0, 100);
         Due.due("order(2, 0, -1)", x.order(2, 0, -1), GateTimes.UNKNOWN);
@@ -105,6 +129,7 @@ public final class Promise03OrderTest {
     }
 
     private static void timePassesFirst() {
+        Due.sentence("Time passes to t (10^9 at most); then an item is ordered into a bin");
         GateTimes x = new GateTimes(1);
         x.item(0, 100);
         x.item(1200, 100);

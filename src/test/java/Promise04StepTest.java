@@ -1,17 +1,15 @@
-/** Promise 4: time passes; and what the Terms say of the gates while it does. */
+/** Promise 4: time passes, and how many items came into bins meanwhile. */
 public final class Promise04StepTest {
     public static void main(String[] args) {
         countsSinceTheStepBefore();
+        firstStep();
         outside();
-        gateTurnsBetweenItems();
-        gateCannotOpenInTime();
-        gateCannotCloseInTime();
-        itemsThatDoNotTurnItHinderToo();
         manyAtOnce();
         Due.end();
     }
 
     private static void countsSinceTheStepBefore() {
+        Due.sentence("how many items came into bins (or were rejected) since the step before");
         GateTimes x = new GateTimes(1);
         x.item(0, 100);
         x.item(500, 100);
@@ -28,7 +26,21 @@ public final class Promise04StepTest {
         Due.due("step(9000) again", x.step(9000), 0);
     }
 
+    private static void firstStep() {
+        Due.sentence("how many items came into bins (or were rejected) since the step before");
+        GateTimes x = new GateTimes(1);
+        Due.due("step(0), no items", x.step(0), 0);
+        GateTimes y = new GateTimes(1);
+        y.item(0, 100);
+        y.item(500, 100);
+        y.order(1, 0, 0);
+        y.order(2, 0, 2499);
+        Due.due("step(2500), the first: all since it was made", y.step(2500), 2);
+        Due.due("step(2500) again", y.step(2500), 0);
+    }
+
     private static void outside() {
+        Due.sentence("OUTSIDE");
         GateTimes x = new GateTimes(1);
         x.item(0, 1);
         x.step(100);
@@ -42,58 +54,8 @@ public final class Promise04StepTest {
         Due.due("step(10^9 + 1)", x.step(1_000_000_001L), GateTimes.OUTSIDE);
     }
 
-    private static void gateTurnsBetweenItems() {
-        GateTimes x = new GateTimes(2);
-        x.item(0, 100);
-        x.item(300, 100);
-        x.item(600, 100);
-        x.order(2, 0, 0);
-        x.step(100_000);
-        Due.due("item 2 opened the gate, 200 behind", binOf(x, 2, 3), 0);
-        Due.due("item 1 went on", binOf(x, 1, 3), 2);
-        Due.due("item 3 closed the gate, 200 behind", binOf(x, 3, 3), 2);
-    }
-
-    private static void gateCannotOpenInTime() {
-        GateTimes x = new GateTimes(2);
-        x.item(0, 100);
-        x.item(299, 100);
-        x.order(2, 0, 0);
-        x.step(100_000);
-        Due.due("item 2, 199 behind, went past its bin", binOf(x, 2, 2), 2);
-    }
-
-    private static void gateCannotCloseInTime() {
-        GateTimes x = new GateTimes(2);
-        x.item(0, 100);
-        x.item(299, 100);
-        x.item(598, 100);
-        x.item(898, 100);
-        x.order(1, 0, 0);
-        x.order(2, 1, 0);
-        x.step(100_000);
-        Due.due("item 1 is in its bin", binOf(x, 1, 4), 0);
-        Due.due("item 2 came into the open gate", binOf(x, 2, 4), 0);
-        Due.due("item 3 as well", binOf(x, 3, 4), 0);
-        Due.due("item 4 closed the gate", binOf(x, 4, 4), 2);
-    }
-
-    private static void itemsThatDoNotTurnItHinderToo() {
-        GateTimes x = new GateTimes(1);
-        x.item(0, 1);
-        x.item(51, 1);
-        x.item(102, 1);
-        x.item(252, 1);
-        x.item(453, 1);
-        for (int k = 2; k <= 5; k++) {
-            x.order(k, 0, 0);
-        }
-        x.step(100_000);
-        Due.due("item 4 is 149 behind item 3", binOf(x, 4, 5), 1);
-        Due.due("item 5 is 200 behind item 4", binOf(x, 5, 5), 0);
-    }
-
     private static void manyAtOnce() {
+        Due.sentence("Time passes");
         GateTimes x = new GateTimes(12);
         for (int k = 0; k < 400; k++) {
             x.item(100L * k, 50);
@@ -104,14 +66,5 @@ public final class Promise04StepTest {
             Due.due("out(" + k + ", 0)", x.out(k, 0), k + 1);
             Due.due("out(" + k + ", 2)", x.out(k, 2), 13_000 + 100L * k);
         }
-    }
-
-    private static int binOf(GateTimes x, int item, int arrived) {
-        for (int i = 0; i < arrived; i++) {
-            if (x.out(i, 0) == item) {
-                return x.out(i, 1);
-            }
-        }
-        return -1;
     }
 }

@@ -3,6 +3,7 @@ public final class Promise05OutTest {
     public static void main(String[] args) {
         orderOfTimes();
         atOneTimeByNumbers();
+        lastTime();
         noneSuch();
         Due.end();
     }
@@ -14,6 +15,7 @@ public final class Promise05OutTest {
     }
 
     private static void orderOfTimes() {
+        Due.sentence("Of the i-th item (0 the first) that came into a bin, in the order of times");
         GateTimes x = new GateTimes(3);
         x.item(0, 100);
         x.item(500, 100);
@@ -28,6 +30,7 @@ public final class Promise05OutTest {
     }
 
     private static void atOneTimeByNumbers() {
+        Due.sentence("at one time by numbers");
         GateTimes x = new GateTimes(3);
         x.item(0, 100);
         x.item(1000, 100);
@@ -45,7 +48,18 @@ public final class Promise05OutTest {
         row(x, 3, 4, 0, 4000);
     }
 
+    private static void lastTime() {
+        Due.sentence("what = .. 2 the time");
+        GateTimes x = new GateTimes(1);
+        x.item(999_998_000L, 900);
+        x.step(999_999_999L);
+        row(x, 0, -1, -1, -1);
+        x.step(1_000_000_000L);
+        row(x, 0, 1, 1, 1_000_000_000);
+    }
+
     private static void noneSuch() {
+        Due.sentence("-1 when there is none such");
         GateTimes x = new GateTimes(1);
         row(x, 0, -1, -1, -1);
         x.item(0, 100);

@@ -2,6 +2,7 @@
 public final class Promise08StuckTest {
     public static void main(String[] args) {
         answers();
+        unknown();
         sticksClosed();
         sticksOpen();
         fromNowOn();
@@ -9,6 +10,7 @@ public final class Promise08StuckTest {
     }
 
     private static void answers() {
+        Due.sentence("1; 0 if it was so.");
         GateTimes x = new GateTimes(2);
         Due.due("stuck(0, false) at first", x.stuck(0, false), 0);
         Due.due("stuck(0, true)", x.stuck(0, true), 1);
@@ -16,14 +18,24 @@ public final class Promise08StuckTest {
         Due.due("stuck(1, true), another", x.stuck(1, true), 1);
         Due.due("stuck(0, false)", x.stuck(0, false), 1);
         Due.due("stuck(0, false) again", x.stuck(0, false), 0);
-        int[] gates = {-1, 2, 3, Integer.MIN_VALUE, Integer.MAX_VALUE};
-        for (int gate : gates) {
-            Due.due("stuck(" + gate + ", true)", x.stuck(gate, true), GateTimes.UNKNOWN);
-            Due.due("stuck(" + gate + ", false)", x.stuck(gate, false), GateTimes.UNKNOWN);
+    }
+
+    private static void unknown() {
+        Due.sentence("UNKNOWN");
+        for (int gates = 1; gates <= 12; gates++) {
+            GateTimes x = new GateTimes(gates);
+            int[] others = {-1, gates, gates + 1, 13, Integer.MIN_VALUE, Integer.MAX_VALUE};
+            for (int gate : others) {
+                String call = gates + " gates: stuck(" + gate;
+                Due.due(call + ", true)", x.stuck(gate, true), GateTimes.UNKNOWN);
+                Due.due(call + ", false)", x.stuck(gate, false), GateTimes.UNKNOWN);
+            }
+            Due.due(gates + " gates: stuck(G - 1, true)", x.stuck(gates - 1, true), 1);
         }
     }
 
     private static void sticksClosed() {
+        Due.sentence("A gate sticks as it stands");
         GateTimes x = new GateTimes(2);
         x.item(0, 100);
         x.item(1000, 100);
@@ -40,6 +52,7 @@ public final class Promise08StuckTest {
     }
 
     private static void sticksOpen() {
+        Due.sentence("A gate sticks as it stands");
         GateTimes x = new GateTimes(2);
         x.item(0, 100);
         x.item(1000, 100);
@@ -57,6 +70,7 @@ public final class Promise08StuckTest {
     }
 
     private static void fromNowOn() {
+        Due.sentence("from now on, or does no more");
         GateTimes x = new GateTimes(1);
         x.item(0, 100);
         x.item(1000, 100);

@@ -3,12 +3,15 @@ public final class Promise09LateTest {
     public static void main(String[] args) {
         howMuch();
         theLatestOne();
+        greatest();
         doNotCount();
+        stays();
         unknown();
         Due.end();
     }
 
     private static void howMuch() {
+        Due.sentence("By how much the item's order that came latest too late was so");
         GateTimes x = new GateTimes(3);
         x.item(0, 100);
         x.item(500, 100);
@@ -23,6 +26,7 @@ public final class Promise09LateTest {
     }
 
     private static void theLatestOne() {
+        Due.sentence("the item's order that came latest too late");
         GateTimes x = new GateTimes(3);
         x.item(0, 100);
         x.order(1, 0, 1900);
@@ -35,7 +39,31 @@ public final class Promise09LateTest {
         Due.due("late(1) stays in the bin", x.late(1), 100);
     }
 
+    private static void greatest() {
+        Due.sentence("By how much the item's order that came latest too late was so");
+        GateTimes x = new GateTimes(12);
+        x.item(0, 100);
+        Due.due("order(1, 0, 12_999), a ms before it is rejected", x.order(1, 0, 12_999), 0);
+        Due.due("late(1)", x.late(1), 12_199);
+        Due.due("order(1, 0, 13_000), rejected", x.order(1, 0, 13_000), 0);
+        Due.due("late(1)", x.late(1), 12_199);
+    }
+
+    private static void stays() {
+        Due.sentence("(.. an order for an item in a bin does not count)");
+        GateTimes x = new GateTimes(3);
+        x.item(0, 100);
+        Due.due("too late", x.order(1, 0, 850), 0);
+        Due.due("in time", x.order(1, 1, 850), 1);
+        Due.due("it has an order", x.order(1, 0, 1500), 2);
+        Due.due("late(1), of the one before its order", x.late(1), 50);
+        Due.due("in a bin", x.order(1, 0, 2000), 0);
+        Due.due("in a bin, for a bin farther on", x.order(1, 2, 2900), 0);
+        Due.due("late(1), of the one before its order", x.late(1), 50);
+    }
+
     private static void doNotCount() {
+        Due.sentence("(0: none did; an order for an item in a bin does not count)");
         GateTimes x = new GateTimes(3);
         x.item(0, 100);
         x.item(1000, 100);
@@ -50,6 +78,7 @@ public final class Promise09LateTest {
     }
 
     private static void unknown() {
+        Due.sentence("UNKNOWN");
         GateTimes x = new GateTimes(3);
         x.item(0, 100);
         x.order(1, 0, 900);

@@ -14,6 +14,7 @@ public final class Promise11VerifyTest {
     }
 
     private static void inTheOrderOfOut() {
+        Due.sentence("Of the i-th item (0 the first) that came WRONG, in the order of out");
         GateTimes x = new GateTimes(3);
         x.item(0, 100);
         x.item(500, 100);
@@ -39,6 +40,7 @@ public final class Promise11VerifyTest {
     }
 
     private static void atOneTimeByNumbers() {
+        Due.sentence("in the order of out");
         GateTimes x = new GateTimes(2);
         x.item(0, 100);
         x.item(1000, 100);
@@ -64,6 +66,7 @@ public final class Promise11VerifyTest {
     }
 
     private static void noneSuch() {
+        Due.sentence("-1 when there is none such");
         GateTimes x = new GateTimes(1);
         row(x, 0, -1, -1, -1);
         x.item(0, 100);
